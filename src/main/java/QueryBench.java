@@ -373,10 +373,14 @@ public final class QueryBench {
         }
 
         /** Both may be null, which is NOTHING. */
-        static boolean same(Value a, Value b, int depth) {
+        static boolean same(Value a, Value b) {
             if (a == null || b == null) {
                 return a == null && b == null;
             }
+            return sameFrom(a, b, 0);
+        }
+
+        private static boolean sameFrom(Value a, Value b, int depth) {
             if (a.kind != b.kind || a.size() != b.size() || depth > MOST_DEPTH) {
                 return false;
             }
@@ -388,7 +392,7 @@ public final class QueryBench {
             }
             for (int i = 0; i < a.size(); i++) {
                 Value other = a.kind == ARRAY ? b.members[i] : b.member(a.members[i].name);
-                if (other == null || !same(a.members[i], other, depth + 1)) {
+                if (other == null || !sameFrom(a.members[i], other, depth + 1)) {
                     return false;
                 }
             }
@@ -1183,17 +1187,17 @@ public final class QueryBench {
             Value right = valueOf(c.right, current);
             switch (c.kind) {
                 case Condition.SAME:
-                    return Value.same(left, right, 0);
+                    return Value.same(left, right);
                 case Condition.OTHER:
-                    return !Value.same(left, right, 0);
+                    return !Value.same(left, right);
                 case Condition.LESS:
                     return Value.less(left, right);
                 case Condition.LESS_OR_SAME:
-                    return Value.less(left, right) || Value.same(left, right, 0);
+                    return Value.less(left, right) || Value.same(left, right);
                 case Condition.MORE:
                     return Value.less(right, left);
                 default:
-                    return Value.less(right, left) || Value.same(left, right, 0);
+                    return Value.less(right, left) || Value.same(left, right);
             }
         }
 

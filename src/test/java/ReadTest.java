@@ -42,6 +42,8 @@ public final class ReadTest {
         good("$", 1);
         good("$.a", 1);
         good("$._aZ09_", 1);
+        good("$.azAZ", 1);
+        good("$.z.A.Z._", 1);
         good("$.a.b.c", 1);
         good("$ .a\t\n\r [0]", 1);
         good("$['a'][0][-1][\"b\"].c", 1);
@@ -76,6 +78,12 @@ public final class ReadTest {
         broken("$...a", 3);
         broken("$.1", 2);
         broken("$.a-b", 3);
+        broken("$.a@", 3);
+        broken("$.a`", 3);
+        broken("$.a{", 3);
+        broken("$.a^", 3);
+        broken("$.a:", 3);
+        broken("$.a/", 3);
         broken("$.\u00e9", 2);
         broken("$.a\u00e9", 3);
         broken("$.'a'", 2);

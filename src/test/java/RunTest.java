@@ -403,15 +403,24 @@ public final class RunTest {
         Bench.due("its bytes", b.x.count(1), 2 * (8 + 3600));
     }
 
+    /** As deep as may be within one [ more. */
+    private static String deepest(String json) {
+        return Bench.repeat("[", 31) + json + Bench.repeat("]", 31);
+    }
+
     private static void bigDepth() {
         String deep = Bench.repeat("[", 32) + Bench.repeat("]", 32);
         Bench b = new Bench();
         b.load(0, "[" + deep.substring(1, 63) + "," + deep.substring(1, 63) + "]");
         b.read("$[?@==$[0]]");
         Bench.due("deep VALUES are the same", b.run(0), "2");
+        b.load(0, Bench.repeat("[", 32) + "1" + Bench.repeat("]", 32));
+        b.read("$[?$==$]");
+        Bench.due("the deepest VALUES are the same", b.run(0), "1");
+        b.load(2, "[" + deepest("1") + "," + deepest("2") + "]");
+        b.read("$[?@==$[0]]");
+        Bench.due("the deepest VALUES are not the same", b.run(2), "1");
         b.load(0, deep);
-        b.read("$" + Bench.repeat("..[0]", 3));
-        b.run(0);
         b.read("$" + Bench.repeat("[0]", 31));
         Bench.due("the deepest", b.run(0), "1");
         Bench.due("its path", b.result(), "$" + Bench.repeat("[0]", 31) + " []\n");
