@@ -2,8 +2,14 @@ import java.nio.charset.StandardCharsets;
 
 /** A QueryBench that is fed with texts, and the count of what was not as due. */
 final class Bench {
+    static final String ARGUMENT = "IllegalArgumentException";
+    static final String STATE = "IllegalStateException";
+    static final String INDEX = "IndexOutOfBoundsException";
+    static final String SYNTAX = "UnsupportedOperationException";
+
     private static int asked = 0;
     private static int wrong = 0;
+    private static String sentence = "";
 
     final QueryBench x = new QueryBench();
 
@@ -12,10 +18,18 @@ final class Bench {
         long answer();
     }
 
+    /** The document's words that the answers from here on are due to. */
+    static void sentence(String words) {
+        sentence = words;
+    }
+
     static void due(String what, Object got, Object want) {
         asked++;
         if (!want.equals(got)) {
             wrong++;
+            if (!sentence.isEmpty()) {
+                System.out.println("the document: " + sentence);
+            }
             System.out.println(what + "\n  answered " + got + "\n  due is   " + want);
         }
     }
@@ -41,10 +55,12 @@ final class Bench {
         byte[] bytes = text.getBytes(StandardCharsets.ISO_8859_1);
         int kept = x.count(0);
         for (int i = 0; i < bytes.length; i += 20) {
-            if (kept + i + 20 > 4096) {
-                throw new AssertionError("the last 20 bytes of a text must fit: " + bytes.length);
+            // The last 20 may not fit behind those before; then some of those are fed a second time.
+            int from = Math.min(i, 4096 - 20 - kept);
+            if (from < i) {
+                x.end(kept + from);
             }
-            x.feed(four(bytes, i), four(bytes, i + 4), four(bytes, i + 8), four(bytes, i + 12), four(bytes, i + 16));
+            x.feed(four(bytes, from), four(bytes, from + 4), four(bytes, from + 8), four(bytes, from + 12), four(bytes, from + 16));
         }
         x.end(kept + bytes.length);
     }
@@ -77,6 +93,58 @@ final class Bench {
 
     int place() {
         return x.count(2);
+    }
+
+    /** What a new object says of the text as a DOCUMENT: how deep it is, or "at" and the PLACE. */
+    static String json(String text) {
+        Bench b = new Bench();
+        return b.told(b.load(0, text));
+    }
+
+    /** What a new object says of the text as a QUERY: 1, 0, or "at" and the PLACE. */
+    static String query(String text) {
+        Bench b = new Bench();
+        return b.told(b.read(text));
+    }
+
+    private String told(String answer) {
+        if (answer.equals(SYNTAX)) {
+            return "at " + place();
+        }
+        return place() == -1 ? answer : answer + ", but place " + place();
+    }
+
+    /** An object with DOCUMENT 0 and a QUERY. */
+    static Bench ready(String json, String query) {
+        Bench b = new Bench();
+        String loaded = b.load(0, json);
+        String read = b.read(query);
+        if (loaded.equals(SYNTAX) || read.equals(SYNTAX)) {
+            throw new AssertionError(query + " over " + json + " is broken at " + b.place());
+        }
+        return b;
+    }
+
+    /** How the DOCUMENT is PRINTED. */
+    static String printed(String json) {
+        String line = found(json, "$");
+        return line.substring(2, line.length() - 1);
+    }
+
+    /** THE RESULT of the QUERY over the DOCUMENT, or what is thrown. */
+    static String found(String json, String query) {
+        Bench b = ready(json, query);
+        String answer = b.run(0);
+        return answer.endsWith("Exception") ? answer : b.result();
+    }
+
+    /** Whether the filter is true of the one VALUE in [ ]. */
+    static boolean holds(String json, String filter) {
+        return found("[" + json + "]", "$[?" + filter + "]").length() > 0;
+    }
+
+    static String work(String json, String query) {
+        return ready(json, query).work(0);
     }
 
     /** THE RESULT, put together from words. */

@@ -1,6 +1,6 @@
 /** Promise 4: JSON, where its SYNTAX is broken, how deep it is; and how it is PRINTED. */
 public final class LoadTest {
-    private static final String SYNTAX = "UnsupportedOperationException";
+    private static final String SYNTAX = Bench.SYNTAX;
 
     public static void main(String[] args) {
         literals();

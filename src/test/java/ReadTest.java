@@ -1,6 +1,6 @@
 /** Promise 5: which texts are a QUERY, which are SINGULAR, and where SYNTAX is broken. */
 public final class ReadTest {
-    private static final String SYNTAX = "UnsupportedOperationException";
+    private static final String SYNTAX = Bench.SYNTAX;
 
     public static void main(String[] args) {
         segments();

@@ -1,6 +1,6 @@
 /** Promises 6, 7 and 10: NODES, their paths, comparisons and functions, WORK, and the limits. */
 public final class RunTest {
-    private static final String INDEX = "IndexOutOfBoundsException";
+    private static final String INDEX = Bench.INDEX;
     private static final String LETTERS = "[\"a\",\"b\",\"c\",\"d\",\"e\",\"f\",\"g\"]";
 
     public static void main(String[] args) {

@@ -1,9 +1,9 @@
 /** Promises 1, 2, 3, 8, 9, and what throwing calls leave as it was. */
 public final class StateTest {
-    private static final String ARGUMENT = "IllegalArgumentException";
-    private static final String STATE = "IllegalStateException";
-    private static final String INDEX = "IndexOutOfBoundsException";
-    private static final String SYNTAX = "UnsupportedOperationException";
+    private static final String ARGUMENT = Bench.ARGUMENT;
+    private static final String STATE = Bench.STATE;
+    private static final String INDEX = Bench.INDEX;
+    private static final String SYNTAX = Bench.SYNTAX;
 
     public static void main(String[] args) {
         newObject();
