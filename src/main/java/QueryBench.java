@@ -297,11 +297,12 @@ public final class QueryBench {
             }
         }
 
+        /** Asks no other method: it is the last one of the longest way that calls go. */
         private int fourHexDigits() {
             int unit = 0;
             for (int i = 0; i < 4; i++) {
-                int b = here();
-                int digit = isDigit(b) ? b - '0'
+                int b = at < end ? bytes[at] : -1;
+                int digit = b >= '0' && b <= '9' ? b - '0'
                         : b >= 'a' && b <= 'f' ? b - 'a' + 10
                         : b >= 'A' && b <= 'F' ? b - 'A' + 10 : -1;
                 if (digit < 0) {

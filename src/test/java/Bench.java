@@ -107,7 +107,8 @@ final class Bench {
         return b.told(b.read(text));
     }
 
-    private String told(String answer) {
+    /** The answer of load or read, or "at" and the PLACE. */
+    String told(String answer) {
         if (answer.equals(SYNTAX)) {
             return "at " + place();
         }

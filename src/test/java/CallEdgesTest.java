@@ -11,6 +11,7 @@ public final class CallEdgesTest {
         endInRange();
         endOutOfRange();
         keptBytes();
+        bytesThatAreNotKept();
         documentsInRange();
         documentsAreThereOrNot();
         brokenLoad();
@@ -189,6 +190,34 @@ public final class CallEdgesTest {
         b.read("$");
         b.run(0);
         Bench.due("and what comes behind them", b.result(), "$ 123\n");
+    }
+
+    /** What stood behind the end is as if it had never been there. */
+    private static void bytesThatAreNotKept() {
+        Bench.sentence("The TAPE keeps its first n bytes");
+        for (String text : new String[] {
+            "{\"a\\u0041b\\ud83d\\ude00\\n\" : [ -120 , 9007199254740992] , \"a\\u0041b\": null}", "[[], true , false\t, {} ]\n",
+            "\"\\u00410000\"", "0.5", "-12e3", "9007199254740992"}) {
+            for (int n = 0; n <= text.length(); n++) {
+                Bench b = cutOff(text, n);
+                Bench.due("load " + n + " of " + text, b.told(Bench.outcome(() -> b.x.load(0))), Bench.json(text.substring(0, n)));
+            }
+        }
+        for (String text : new String[] {
+            "$ .ab12 ..* [ 'x\\u0041\\ud83d\\ude00' , -12 : 340 : 5 , 0]", "$..[?length( @.a ) >= 12 && !( @['b'] != \"\\u00e9\" )]",
+            "$[?value(@..a)==true||count($.*)<null]", "$[9007199254740992]"}) {
+            for (int n = 0; n <= text.length(); n++) {
+                Bench b = cutOff(text, n);
+                Bench.due("read " + n + " of " + text, b.told(Bench.outcome(() -> b.x.read())), Bench.query(text.substring(0, n)));
+            }
+        }
+    }
+
+    private static Bench cutOff(String text, int n) {
+        Bench b = new Bench();
+        b.tape(text);
+        b.x.end(n);
+        return b;
     }
 
     private static void documentsInRange() {

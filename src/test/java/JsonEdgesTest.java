@@ -368,6 +368,7 @@ public final class JsonEdgesTest {
             for (int length = 1; length < character.length(); length++) {
                 broken("\"ab" + character.substring(0, length), 3);
                 broken("{\"" + character.substring(0, length), 2);
+                broken(Bench.repeat(" ", 4095 - length) + "\"" + character.substring(0, length), 4096 - length);
             }
             broken("\"ab" + character, 3 + character.length());
             due("\"ab" + character + "\"", "0");
